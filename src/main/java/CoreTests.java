@@ -146,7 +146,7 @@ public final class CoreTests {
         // A rule's first core is the lower one: the lowest core that is not put waits for none.
         for (int c = 0; c < chip.cores; c++) {
             if (plan.isPut(c)) continue;
-            if (!plan.placeDoneFirst(c)) {
+            if (!plan.placeDoneFirst(c, NEVER)) {
                 stuck(c, placed);
                 return NO;
             }
@@ -180,7 +180,7 @@ public final class CoreTests {
 
     public int soonest(int c, int w) {
         if (!isCore(c) || !isWidth(w)) return BAD;
-        return plan.isPut(c) ? NONE : plan.firstNotRefused(c, w);
+        return plan.isPut(c) ? NONE : plan.firstNotRefused(c, w, NEVER);
     }
 
     public int runs(int t, int what) {
@@ -682,14 +682,14 @@ public final class CoreTests {
             return first;
         }
 
-        /** The first cycle from which a core that is not put is not refused. */
-        int firstNotRefused(int c, int w) {
+        /** The first cycle from which a core that is not put is not refused and done ahead of by. */
+        int firstNotRefused(int c, int w, int by) {
             int takes = takes(c, w);
             int first = NONE;
             // Where it could not run one cycle earlier, it begins at 0 or where another is done.
             for (int i = -1; i < chip.cores; i++) {
                 int t = i < 0 ? 0 : until[i];
-                if (first != NONE && t >= first) continue;
+                if (t + takes >= by || first != NONE && t >= first) continue;
                 if (notDoneAhead(c, t) == NONE && begunBehind(c, t + takes) == NONE
                     && firstOver(LINES_TAKEN, chip.lines - w, t, t + takes) == NONE
                     && firstOver(POWER_DRAWN, chip.power - chip.draws[c], t, t + takes) == NONE) {
@@ -699,11 +699,11 @@ public final class CoreTests {
             return first;
         }
 
-        /** Puts a core at the width at which it is done first; false: it can be put at none. */
-        boolean placeDoneFirst(int c) {
+        /** Puts a core at the width at which it is done first; false: at none it is ahead of by. */
+        boolean placeDoneFirst(int c, int by) {
             int bestWidth = 0;
             int bestFrom = 0;
-            int bestEnd = NEVER;
+            int bestEnd = by;
             int least = NEVER;
             for (int w = 1; w <= chip.lines; w++) {
                 int takes = takes(c, w);
@@ -711,8 +711,8 @@ public final class CoreTests {
                 // and it is done no later.
                 if (takes >= least) continue;
                 least = takes;
-                int t = firstNotRefused(c, w);
-                if (t != NONE && t + takes < bestEnd) {
+                int t = firstNotRefused(c, w, bestEnd);
+                if (t != NONE) {
                     bestWidth = w;
                     bestFrom = t;
                     bestEnd = t + takes;
@@ -848,17 +848,12 @@ public final class CoreTests {
             }
             for (int c = 0; c < s.chip.cores; c++) {
                 if ((placed >> c & 1) == 1 || (s.trial.ahead[c] & ~placed) != 0) continue;
-                if (!s.trial.placeDoneFirst(c)) return;
-                int now = Math.max(length, s.trial.until[c]);
+                if (length >= s.least || s.least <= s.floor) return;
                 // Put later it would be done no sooner: no order that begins so is better then.
-                if (now < s.least && s.least > s.floor) {
-                    s.order[depth] = c;
-                    tryAll(s, depth + 1, placed | 1 << c, now);
-                    s.trial.takeOff(c);
-                } else {
-                    s.trial.takeOff(c);
-                    return;
-                }
+                if (!s.trial.placeDoneFirst(c, s.least)) return;
+                s.order[depth] = c;
+                tryAll(s, depth + 1, placed | 1 << c, Math.max(length, s.trial.until[c]));
+                s.trial.takeOff(c);
             }
         }
     }
@@ -884,6 +879,7 @@ public final class CoreTests {
                 rows[rows.length - 1] = oldest;
                 held = rows.length - 1;
             }
+            if (row.length < ROW) return;
             System.arraycopy(row, 0, rows[held], 0, ROW);
             held++;
         }

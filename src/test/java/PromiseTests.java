@@ -188,10 +188,22 @@ public final class PromiseTests {
         Check.due("undo()", x.undo(), NO);
         Check.due("back()", x.back(), NO);
         x.wipe();
-        Check.written(x, "w1;c0,1,1,1;c0,1,1,1;");
+        Check.written(x, "w1;m3;c0,1,1,1;c0,1,1,1;");
         Check.due("lay()", x.lay(), 2);
         Check.due("best(-1) of the new one", x.best(-1), 6);
         Check.due("put(1)", x.put(1, 1, 0), 3);
+        // Of the same kinds, but another chip; without w and m there are 4 and 20 again.
+        x.wipe();
+        Check.written(x, "c0,1,10,1;c0,1,11,2;b0,1;");
+        x.lay();
+        Check.dueCounts(x, 2, 1, 4, 20);
+        Check.due("best(-1) of the third", x.best(-1), 8);
+        Check.due("costs(0) of the third", x.costs(0), 100000);
+        x.wipe();
+        Check.written(x, "c0,1,10,1;c0,1,10,3;b0,1;");
+        x.lay();
+        Check.due("best(-1) of the fourth", x.best(-1), 10);
+        Check.due("costs(0) of the fourth", x.costs(0), 100003);
     }
 
     private static void core() {
@@ -258,6 +270,12 @@ public final class PromiseTests {
         dueWraps(x, 3, 2, 55, 39, 39, 39, 39, 39);
         dueWraps(x, 3, 0, 13, 9, 9, 9, 9, 9);
         CoreTests y = Check.laid("w2;c2,5,1,9;c2,6,1,9;c2,9,1,5;c1,20,1,999999;", 4);
+        CoreTests ideal = Check.laid("w4;c0,1,1,54333;c0,1,1,333222;c0,1,1,345;", 3);
+        dueWraps(ideal, 0, 0, 18, 10, 7, 6);
+        dueWraps(ideal, 0, 1, 18, 9, 7, 6);
+        dueWraps(ideal, 1, 0, 15, 8, 5, 5);
+        dueWraps(ideal, 1, 1, 15, 8, 5, 5);
+        dueWraps(ideal, 2, 1, 12, 7, 5, 5);
         dueWraps(y, 0, 2, 60, 60);
         dueWraps(y, 1, 2, 69, 69);
         dueWraps(y, 2, 2, 60, 60);
@@ -397,6 +415,12 @@ public final class PromiseTests {
         Check.due("core(0, 5)", y.core(0, 5), 0);
         Check.due("core(2, 4)", y.core(2, 4), 1);
         Check.due("core(2, 5)", y.core(2, 5), 13);
+        // 13 cycles from 0 on, or 7 from 6 on: done at once, so at the lesser width.
+        CoreTests v = Check.laid("w2;c0,1,1,1;c0,1,1,33;", 2);
+        v.put(0, 1, 3);
+        Check.due("fill()", v.fill(), 13);
+        Check.due("core(1, 4)", v.core(1, 4), 1);
+        Check.due("core(1, 5)", v.core(1, 5), 0);
         CoreTests z = Check.laid("w4;c0,1,1,2222;c0,1,1,44;", 2);
         Check.due("fill()", z.fill(), 14);
         Check.due("core(0, 4)", z.core(0, 4), 4);
@@ -666,6 +690,8 @@ public final class PromiseTests {
         Check.due("best(1)", v.best(1), NONE);
         Check.due("best(2)", v.best(2), BAD);
         Check.due("best(-2)", v.best(-2), BAD);
+        CoreTests all = Check.laid("m9;c0,1,9,1;c0,1,9,1;", 2);
+        dueBest(all, 6, 0, 1);
         Check.due("costs(0)", v.costs(0), NONE);
         bestOfOtherKinds();
     }
@@ -702,6 +728,12 @@ public final class PromiseTests {
         z.rename(2, 2);
         Check.due("costs(1)", z.costs(1), 100000 + 68 - 60);
         for (int b : new int[] {-1, 2, 8, MIN, MAX}) Check.due("costs(" + b + ")", z.costs(b), BAD);
+        // Six of 3 cycles on 8 lines; 4 stands behind 0 to 3, and 5 behind 4 by one rule only.
+        CoreTests six = Check.laid("w8;c0,1,1,1;c0,1,1,1;c0,1,1,1;c0,1,1,1;c0,1,1,1;c0,1,1,1;"
+            + "b0,4;b1,4;b2,4;b3,4;b0,4;b0,5;b1,5;b4,5;", 6);
+        for (int b = 0; b < 7; b++) Check.due("costs(" + b + ") of 8", six.costs(b), 100000);
+        Check.due("costs(7) of 8", six.costs(7), 100003);
+        Check.due("costs(8) of 8", six.costs(8), BAD);
         CoreTests none = Check.laid("c0,1,1,1;", 1);
         Check.due("costs(0) without rules", none.costs(0), BAD);
     }
