@@ -325,7 +325,8 @@ public final class CoreTests {
         }
 
         int figureAt(int place) {
-            int letter = letterAt(place);
+            if (place < 0 || place >= length) return NONE;
+            int letter = letters[place];
             return letter >= '0' && letter <= '9' ? letter - '0' : NONE;
         }
     }
