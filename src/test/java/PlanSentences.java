@@ -180,6 +180,10 @@ public final class PlanSentences {
         // 2, 0, 1 is as short as 0, 2, 1.
         dueBest(Asked.on("w2;c0,2,1,1;c0,1,1,2;c0,2,1,2;"), 10, 0, 2, 1);
         dueBest(Asked.on("w2;m1;c0,1,1,1;c0,1,1,1;c0,1,1,1;"), 9, 0, 1, 2);
+        // 0 and 1 draw too much to run together: 8, in whatever order 2 and 3 run beside them.
+        dueBest(Asked.on("w8;m9;c0,1,5,1;c0,1,5,2;c0,1,1,1;c0,1,1,1;"), 8, 0, 1, 2, 3);
+        dueBest(Asked.on("w8;m9;c0,1,1,1;c0,1,1,1;c0,1,5,1;c0,1,5,2;"), 8, 0, 1, 2, 3);
+        dueBest(Asked.on("w8;m9;c0,1,5,1;c0,1,1,1;c0,1,5,2;c0,1,1,1;c0,1,1,1;b0,4;"), 8, 0, 1, 2, 3, 4);
     }
 
     private static void bestUnderRules() {

@@ -15,6 +15,7 @@ public final class TextSentences {
         behindTheText();
         wipe();
         itemsAreWhole();
+        itemsAreWholeInAFullText();
         itemsAreParted();
         letterOfAnItem();
         figuresOfNumbers();
@@ -110,6 +111,20 @@ public final class TextSentences {
             dueFault(NONE, whole.toString());
             dueFault(whole.length(), whole + ";", whole + " ", whole + "1");
         }
+    }
+
+    private static void itemsAreWholeInAFullText() {
+        Check.part("a ; behind it: where THE TEXT is full at 200 letters, and the last ITEM has none");
+        for (String item : new String[] {"m40;", "c3,20,30,999999;", "b00,01;", "x"}) {
+            for (int i = 1; i < item.length() || i == 1; i++) {
+                StringBuilder text = new StringBuilder("c0,1,1,1;c0,1,1,1;");
+                while ((200 - i - text.length()) % 4 != 0) text.append("m1;");
+                while (text.length() < 200 - i) text.append("m20;");
+                dueFault(200 - i, text + item.substring(0, i));
+            }
+        }
+        Asked x = new Asked().written("m20;".repeat(49) + "m1;").is(NONE, "fault").is(200, "write", ';').is(199, "fault").is(FULL, "write", ';').is(NO, "lay");
+        x.is(200, "wipe").written("w8;").is(NONE, "fault");
     }
 
     private static void itemsAreParted() {
